@@ -18,7 +18,7 @@ public final class PressingPlant {
     private static final int PLAN_PRESSES = 3, CAUSE_MOST = 3, PLACE_FACTS = 6, PLACES_MOST = 160;
     private static final int DIFFERENCE_MOST = 1000000000;
 
-    private final Told told = new Told();
+    private final Told answers = new Told();
     private final Shelf rows = new Shelf(ROWS, ROW_MOST, 0);
     private final Shelf texts = new Shelf(TEXTS, TEXT_MOST, BLANK);
     private final Metals metals = new Metals();
@@ -38,58 +38,58 @@ public final class PressingPlant {
 
     public int row(int r, int n) {
         if (!rows.has(r) || n > ROW_MOST) return BAD;
-        if (n < 0) return told.found(SIZE);
+        if (n < 0) return answers.found(SIZE);
         rows.bring(r, n);
         return n;
     }
 
     public int lay(int r, int i, int v) {
         if (!rows.has(r)) return BAD;
-        if (rows.missing(r)) return told.found(NOTHING);
-        if (!rows.inside(r, i)) return told.found(BEYOND);
-        return told.asks(rows.change(r, i, v));
+        if (rows.missing(r)) return answers.found(NOTHING);
+        if (!rows.inside(r, i)) return answers.found(BEYOND);
+        return answers.asks(rows.change(r, i, v));
     }
 
     public int tear(int r) {
         if (!rows.has(r)) return BAD;
-        if (rows.missing(r)) return told.found(NOTHING);
+        if (rows.missing(r)) return answers.found(NOTHING);
         rows.drop(r);
         return 1;
     }
 
     public int copy(int r, int i, int to, int j, int n) {
         if (!rows.has(r) || !rows.has(to)) return BAD;
-        if (n < 0) return told.found(SIZE);
-        if (rows.missing(r) || rows.missing(to)) return told.found(NOTHING);
-        if (!rows.spans(r, i, n) || !rows.spans(to, j, n)) return told.found(BEYOND);
+        if (n < 0) return answers.found(SIZE);
+        if (rows.missing(r) || rows.missing(to)) return answers.found(NOTHING);
+        if (!rows.spans(r, i, n) || !rows.spans(to, j, n)) return answers.found(BEYOND);
         rows.move(r, i, to, j, n);
         return 1;
     }
 
     public int text(int t, int n) {
         if (!texts.has(t) || n > TEXT_MOST) return BAD;
-        if (n < 0) return told.found(SIZE);
+        if (n < 0) return answers.found(SIZE);
         texts.bring(t, n);
         return n;
     }
 
     public int put(int t, int i, int v) {
         if (!texts.has(t)) return BAD;
-        if (texts.missing(t)) return told.found(NOTHING);
-        if (!texts.inside(t, i)) return told.found(BEYOND);
+        if (texts.missing(t)) return answers.found(NOTHING);
+        if (!texts.inside(t, i)) return answers.found(BEYOND);
         return 1000 + texts.change(t, i, (byte) v);
     }
 
     public int burn(int t) {
         if (!texts.has(t)) return BAD;
-        if (texts.missing(t)) return told.found(NOTHING);
+        if (texts.missing(t)) return answers.found(NOTHING);
         texts.drop(t);
         return 1;
     }
 
     public int fault(int t) {
         if (!texts.has(t)) return BAD;
-        if (texts.missing(t)) return told.found(NOTHING);
+        if (texts.missing(t)) return answers.found(NOTHING);
         return rules.read(texts, t);
     }
 
@@ -128,12 +128,12 @@ public final class PressingPlant {
 
     public int told(int metal, int what) {
         if (!metals.has(metal) || !below(what, 7)) return BAD;
-        return told.asks(metals.fact(metal, what));
+        return answers.asks(metals.fact(metal, what));
     }
 
     public int mark(int metal, int kind) {
         if (!metals.has(metal) || !below(kind, KINDS)) return BAD;
-        if (metals.kindOf(metal) != kind) return told.found(UNLIKE);
+        if (metals.kindOf(metal) != kind) return answers.found(UNLIKE);
         switch (kind) {
             case LACQUER: return metals.madeOf(metal);
             case MASTER: return metals.thereOf(metal, MOTHER);
@@ -149,7 +149,7 @@ public final class PressingPlant {
 
     public int lead(int metal) {
         if (!metals.has(metal)) return BAD;
-        told.asks(metals.firstAbove(metal));
+        answers.asks(metals.firstAbove(metal));
         return metals.depth(metal);
     }
 
@@ -157,7 +157,7 @@ public final class PressingPlant {
 
     public int marry(int press, int a, int b) {
         if (!below(press, PRESSES) || !metals.has(a) || !metals.has(b) || a == b) return BAD;
-        if (metals.kindOf(a) != STAMPER || metals.kindOf(b) != STAMPER) return told.found(UNLIKE);
+        if (metals.kindOf(a) != STAMPER || metals.kindOf(b) != STAMPER) return answers.found(UNLIKE);
         if (!presses.empty(press) || !isFree(a) || !isFree(b)) return STATE;
         presses.load(press, a, b);
         return 1;
@@ -169,7 +169,7 @@ public final class PressingPlant {
 
     public int part(int press) {
         if (!below(press, PRESSES)) return BAD;
-        if (presses.empty(press)) return told.found(NOTHING);
+        if (presses.empty(press)) return answers.found(NOTHING);
         int first = presses.stamper(press, 0);
         presses.load(press, NONE, NONE);
         return first;
@@ -177,7 +177,7 @@ public final class PressingPlant {
 
     public int held(int press, int face) {
         if (!below(press, PRESSES) || !below(face, FACES)) return BAD;
-        if (presses.empty(press)) return told.found(NOTHING);
+        if (presses.empty(press)) return answers.found(NOTHING);
         return presses.stamper(press, face);
     }
 
@@ -193,7 +193,7 @@ public final class PressingPlant {
 
     public int run(int press, int n, boolean hot) {
         if (!below(press, PRESSES) || n < 1 || n > COPIES_MOST) return BAD;
-        if (presses.empty(press)) return told.found(NOTHING);
+        if (presses.empty(press)) return answers.found(NOTHING);
         if (runs.count >= RUNS_MOST) return FULL;
         int more = hot ? 2 * n : n;
         int may = rules.inForce(Rules.WEAR, today, today);
@@ -204,7 +204,7 @@ public final class PressingPlant {
 
     public int runTold(int r, int what) {
         if (!runs.has(r) || !below(what, 7)) return BAD;
-        return told.asks(runFact(r, what));
+        return answers.asks(runFact(r, what));
     }
 
     private int runFact(int r, int what) {
@@ -213,10 +213,10 @@ public final class PressingPlant {
 
     public int mean(int metal) {
         if (!metals.has(metal)) return BAD;
-        if (metals.kindOf(metal) != STAMPER) return told.found(UNLIKE);
+        if (metals.kindOf(metal) != STAMPER) return answers.found(UNLIKE);
         int number = runs.numberOf(metal);
-        if (number <= 0) return told.found(NOUGHT);
-        return told.asks(runs.copiesOf(metal) / number);
+        if (number <= 0) return answers.found(NOUGHT);
+        return answers.asks(runs.copiesOf(metal) / number);
     }
 
     // ---- 4 rules
@@ -224,7 +224,7 @@ public final class PressingPlant {
     public int rule(int t, int from) {
         if (!texts.has(t) || !isDay(from)) return BAD;
         if (rules.count >= RULES_MOST) return FULL;
-        if (texts.missing(t)) return told.found(NOTHING);
+        if (texts.missing(t)) return answers.found(NOTHING);
         if (rules.read(texts, t) != NONE) return STATE;
         return rules.make(today, from);
     }
@@ -251,9 +251,9 @@ public final class PressingPlant {
 
     public int cause(int turn, int misses) {
         if (!isTurn(turn) || !areMisses(misses)) return BAD;
-        if (!explain(turn, misses)) return NONE;
+        if (!explain(turn, misses, 0L)) return NONE;
         search.keepCause(metals, runs, turn);
-        told.asks(search.causeMisses());
+        answers.asks(search.causeMisses());
         return search.size;
     }
 
@@ -261,9 +261,9 @@ public final class PressingPlant {
         return misses >= 0 && misses <= REPORTS_MOST;
     }
 
-    private boolean explain(int turn, int misses) {
+    private boolean explain(int turn, int misses, long toTally) {
         search.places.gather(metals, runs);
-        return search.explain(reports, turn, misses);
+        return search.explain(reports, turn, misses, toTally);
     }
 
     public int causeTold(int i, int what) {
@@ -273,16 +273,16 @@ public final class PressingPlant {
 
     public int rivals(int turn, int misses) {
         if (!isTurn(turn) || !areMisses(misses)) return BAD;
-        return explain(turn, misses) ? search.rivals : NONE;
+        return explain(turn, misses, 0L) ? search.rivals : NONE;
     }
 
     public int nextTest(int turn, int misses) {
         if (!isTurn(turn) || !areMisses(misses)) return BAD;
-        if (!explain(turn, misses)) return NONE;
-        long untried = runs.allFaces() & ~reports.faces(turn);
-        int next = search.evenest(untried);
+        long untried = runs.allFaces() & ~reports.faces(turn, true) & ~reports.faces(turn, false);
+        if (!explain(turn, misses, untried)) return NONE;
+        int next = search.evenest();
         if (next == NONE) return NONE;
-        told.asks(search.greaterPart(next));
+        answers.asks(search.greaterPart(next));
         return 10 * (next / FACES) + next % FACES;
     }
 
@@ -308,20 +308,20 @@ public final class PressingPlant {
 
     public int swishRun(int turns, int amounts) {
         if (!rows.has(turns) || !rows.has(amounts)) return BAD;
-        if (rows.missing(turns) || rows.missing(amounts)) return told.found(NOTHING);
-        if (rows.size(turns) != rows.size(amounts)) return told.found(SIZE);
-        if (!areTurns(turns)) return told.found(UNLIKE);
+        if (rows.missing(turns) || rows.missing(amounts)) return answers.found(NOTHING);
+        if (rows.size(turns) != rows.size(amounts)) return answers.found(SIZE);
+        if (!areTurns(turns)) return answers.found(UNLIKE);
         int nearest = NONE;
-        long least = Long.MAX_VALUE;
+        long least = 0;
         for (int r = 0; r < runs.count; r++) {
             long apart = difference(r, turns, amounts);
-            if (apart < least) {
+            if (nearest == NONE || apart < least) {
                 least = apart;
                 nearest = r;
             }
         }
         if (nearest == NONE) return NONE;
-        told.asks((int) Math.min(least, (long) DIFFERENCE_MOST));
+        answers.asks((int) Math.min(least, (long) DIFFERENCE_MOST));
         return nearest;
     }
 
@@ -370,7 +370,7 @@ public final class PressingPlant {
                 sum += pence * sales.copies[s] * facesWith(sales.run[s], side);
             }
         }
-        told.pence = sum;
+        answers.pence = sum;
         return 1;
     }
 
@@ -383,7 +383,7 @@ public final class PressingPlant {
     }
 
     public long pence() {
-        return told.pence;
+        return answers.pence;
     }
 
     public int share(int side) {
@@ -396,8 +396,8 @@ public final class PressingPlant {
             if (copies > 0) sold += copies;
             else sent -= copies;
         }
-        if (sold == 0) return told.found(NOUGHT);
-        told.fraction(sent, sold);
+        if (sold == 0) return answers.found(NOUGHT);
+        answers.fraction(sent, sold);
         return 1;
     }
 
@@ -410,7 +410,7 @@ public final class PressingPlant {
     public int plan(int presses, int rate) {
         if (presses < 1 || presses > PLAN_PRESSES || rate < 1 || rate > COPIES_MOST) return BAD;
         orders.choose(presses, rate, today);
-        told.asks(orders.met);
+        answers.asks(orders.met);
         return Integer.bitCount(orders.met);
     }
 
@@ -439,7 +439,7 @@ public final class PressingPlant {
         if (!below(side, SIDES) || come < 0 || come > 100000) return BAD;
         if (wax < 0 || wax > 1000 || lost < 0 || lost > 1000) return BAD;
         long over = (long) guess(side) - come;
-        told.pence = over > 0 ? over * wax : -over * lost;
+        answers.pence = over > 0 ? over * wax : -over * lost;
         if (over == 0) return 0;
         return over > 0 ? 1 : 2;
     }
@@ -447,15 +447,15 @@ public final class PressingPlant {
     // ---- 7 what is told
 
     public int asked() {
-        return told.asked;
+        return answers.asked;
     }
 
     public long upper() {
-        return told.upper;
+        return answers.upper;
     }
 
     public long lower() {
-        return told.lower;
+        return answers.lower;
     }
 
     public int count(int what) {
@@ -476,11 +476,11 @@ public final class PressingPlant {
     }
 
     public int finding() {
-        return told.finding;
+        return answers.finding;
     }
 
     public int findings(int f) {
-        return f < NOTHING || f > SIZE ? BAD : told.times[f];
+        return f < NOTHING || f > SIZE ? BAD : answers.times[f];
     }
 
     public long digest() {
@@ -926,6 +926,7 @@ public final class PressingPlant {
 
         int swishAt(int r, int turn) {
             if (!has(r)) return 0;
+            // A size has no sign, so turns 2 and 3 of four are as 0 and 1.
             int along = turn % 2 == 0 ? x[r] : y[r];
             return Math.abs(along) * (1000 - turn) / 1000;
         }
@@ -951,8 +952,10 @@ public final class PressingPlant {
         final int[] toldOn = new int[RULES_MOST];
         final int[] from = new int[RULES_MOST];
         final int[] values = new int[RULES_MOST * THINGS];
-        final int[] draft = new int[THINGS];
+        private final int[] draft = new int[THINGS];
+        private final int[] signs = new int[TEXT_MOST];
         int count = 0;
+        private int size = 0;
         private int place = 0;
         private boolean sound = true;
 
@@ -1022,80 +1025,71 @@ public final class PressingPlant {
 
         /** Reads a text into the draft: its fault, or NONE. */
         int read(Shelf texts, int t) {
+            size = Math.min(texts.size(t), TEXT_MOST);
+            for (int i = 0; i < size; i++) signs[i] = texts.at(t, i);
             for (int i = 0; i < THINGS; i++) draft[i] = UNSAID;
             place = 0;
             sound = true;
-            int size = texts.size(t);
-            for (int step = 0; step <= TEXT_MOST && sound && place < size; step++) {
-                if (texts.at(t, place) == BLANK) place++;
-                else item(texts, t);
-            }
+            for (int step = 0; step < TEXT_MOST && sound && place < size; step++) readItem();
             return sound ? NONE : place;
         }
 
-        private void item(Shelf texts, int t) {
-            switch (texts.at(t, place)) {
-                case 'G': growthItem(texts, t); break;
-                case 'W': wearItem(texts, t); break;
-                case 'P': penceItem(texts, t); break;
-                case 'N': landItem(texts, t, 0); break;
-                case 'Y': landItem(texts, t, 1); break;
+        /** An item or a blank; where it can't go on the place stays, for it is the fault. */
+        private void readItem() {
+            int sign = below(place, size) ? signs[place] : BLANK;
+            switch (sign) {
+                case BLANK: place++; break;
+                case 'G': readGrowth(); break;
+                case 'W': readWear(); break;
+                case 'P': readPence(); break;
+                case 'N': readLand(0); break;
+                case 'Y': readLand(1); break;
                 default: sound = false;
             }
         }
 
-        private void growthItem(Shelf texts, int t) {
+        private void readGrowth() {
             place++;
-            int a = digit(texts, t, KINDS);
-            int b = digit(texts, t, KINDS);
-            int n = number(texts, t, 2);
-            if (sound) note(growing(a, b), n);
+            int a = digits(1, KINDS);
+            int b = digits(1, KINDS);
+            int n = digits(2, 10);
+            note(growing(a, b), n);
         }
 
-        private void wearItem(Shelf texts, int t) {
+        private void readWear() {
             place++;
-            int n = number(texts, t, 5);
-            if (sound) note(WEAR, n);
+            int n = digits(5, 10);
+            note(WEAR, n);
         }
 
-        private void penceItem(Shelf texts, int t) {
+        private void readPence() {
             place++;
-            int land = digit(texts, t, LANDS);
-            int n = number(texts, t, 4);
-            if (sound) note(paying(land), n);
+            int land = digits(1, LANDS);
+            int n = digits(4, 10);
+            note(paying(land), n);
         }
 
-        private void landItem(Shelf texts, int t, int may) {
+        private void readLand(int may) {
             place++;
-            int land = digit(texts, t, LANDS);
-            if (sound) note(selling(land), may);
+            int land = digits(1, LANDS);
+            note(selling(land), may);
         }
 
         private void note(int thing, int n) {
-            if (below(thing, THINGS)) draft[thing] = n;
+            if (sound && below(thing, THINGS)) draft[thing] = n;
         }
 
-        /** A digit below a bound; without one the place stays where the fault is. */
-        private int digit(Shelf texts, int t, int bound) {
-            if (!sound) return 0;
-            if (!digitIsNext(texts, t, bound)) {
-                sound = false;
-                return 0;
+        /** A number of so many digits at most, each below a bound. */
+        private int digits(int most, int bound) {
+            int n = 0;
+            int read = 0;
+            for (; sound && read < most && below(place, size); read++) {
+                int digit = signs[place] - '0';
+                if (!below(digit, bound)) break;
+                n = 10 * n + digit;
+                place++;
             }
-            int d = texts.at(t, place) - '0';
-            place++;
-            return d;
-        }
-
-        private boolean digitIsNext(Shelf texts, int t, int bound) {
-            return texts.inside(t, place) && below(texts.at(t, place) - '0', bound);
-        }
-
-        private int number(Shelf texts, int t, int most) {
-            int n = digit(texts, t, 10);
-            for (int i = 1; i < most && sound && digitIsNext(texts, t, 10); i++) {
-                n = 10 * n + digit(texts, t, 10);
-            }
+            if (read == 0) sound = false;
             return n;
         }
 
@@ -1140,12 +1134,8 @@ public final class PressingPlant {
             return below(i, count) && turn[i] == t && heard[i] == isHeard;
         }
 
-        /** All faces of which there is a report at a turn. */
-        long faces(int t) {
-            return heardFaces(t, true) | heardFaces(t, false);
-        }
-
-        long heardFaces(int t, boolean isHeard) {
+        /** The faces of which a turn is told so, a bit for each. */
+        long faces(int t, boolean isHeard) {
             long faces = 0;
             for (int i = 0; i < count; i++) {
                 if (tells(i, t, isHeard)) faces |= faceBit(i);
@@ -1238,44 +1228,59 @@ public final class PressingPlant {
     private static final class Search {
         final Places places = new Places();
         private final long[] quiet = new long[PLACES_MOST];
+        private final int[] useful = new int[PLACES_MOST];
         private final int[] chosen = new int[CAUSE_MOST];
         private final long[] reason = new long[CAUSE_MOST];
         private final int[] onRivals = new int[RUNS_MOST * FACES];
         private final int[] cause = new int[CAUSE_MOST * PLACE_FACTS];
         private int causeSize = 0;
-        private long need = 0;
+        private int usefuls = 0;
         private int misses = 0;
+        private long need = 0;
+        private long tallied = 0;
         private long best = 0;
-        private boolean tally = false;
         int size = 0;
         int rivals = 0;
 
-        boolean explain(Reports reports, int turn, int mayMiss) {
-            need = reports.heardFaces(turn, true);
+        /** Counts for each of the faces to tally the rivals that are on it, too. */
+        boolean explain(Reports reports, int turn, int mayMiss, long toTally) {
+            need = reports.faces(turn, true);
             misses = mayMiss;
-            tally = false;
-            for (int p = 0; p < places.count; p++) quiet[p] = quietOn(reports, turn, places.cover[p]);
-            for (size = 0; size <= CAUSE_MOST; size++) {
-                rivals = 0;
-                best = Long.MAX_VALUE;
+            tallied = toTally;
+            for (int f = 0; f < onRivals.length; f++) onRivals[f] = 0;
+            hearQuiet(reports, turn);
+            pickUseful();
+            rivals = 0;
+            for (int fewest = 0; fewest <= CAUSE_MOST && rivals == 0; fewest++) {
+                size = fewest;
                 extend(0, 0L, 0L);
-                if (rivals > 0) return true;
             }
-            return false;
+            return rivals > 0;
         }
 
-        /** A bit for each report that tells not heard of a face that is among these. */
-        private static long quietOn(Reports reports, int turn, long faces) {
-            long bits = 0;
+        /** For each place a bit for each report that tells not heard of a face that is on it. */
+        private void hearQuiet(Reports reports, int turn) {
+            for (int p = 0; p < places.count; p++) quiet[p] = 0;
             for (int i = 0; i < reports.count; i++) {
-                if (reports.tells(i, turn, false) && (reports.faceBit(i) & faces) != 0) bits |= 1L << i;
+                if (!reports.tells(i, turn, false)) continue;
+                long face = reports.faceBit(i);
+                for (int p = 0; p < places.count; p++) {
+                    if ((places.cover[p] & face) != 0) quiet[p] |= 1L << i;
+                }
             }
-            return bits;
+        }
+
+        /** A set with a place that covers nothing wanted is not among those with the fewest. */
+        private void pickUseful() {
+            usefuls = 0;
+            for (int p = 0; p < places.count; p++) {
+                if ((places.cover[p] & need) != 0 && Long.bitCount(quiet[p]) <= misses) useful[usefuls++] = p;
+            }
         }
 
         /**
-         * Takes one place more, for the first face that is not covered yet. With no fewer places enough,
-         * each place of a set has a face that only it covers, so no set is missed.
+         * Takes one place more, for the first face that is not covered yet. If no fewer places are enough,
+         * each place of a set has a face that it alone covers, so no set is left out.
          */
         private void extend(int depth, long covered, long missed) {
             long open = need & ~covered;
@@ -1284,8 +1289,9 @@ public final class PressingPlant {
                 return;
             }
             long wanted = open & -open;
-            for (int p = 0; p < places.count; p++) {
-                if ((places.cover[p] & wanted) == 0 || takenAhead(depth, p)) continue;
+            for (int u = 0; u < usefuls; u++) {
+                int p = useful[u];
+                if ((places.cover[p] & wanted) == 0 || comesTwice(depth, p)) continue;
                 if (Long.bitCount(missed | quiet[p]) > misses) continue;
                 chosen[depth] = p;
                 reason[depth] = wanted;
@@ -1293,8 +1299,8 @@ public final class PressingPlant {
             }
         }
 
-        /** So that each set comes once: of places that cover a wanted face the first one is taken for it. */
-        private boolean takenAhead(int depth, int p) {
+        /** Of a set's places that cover a wanted face the first is taken for it, so that each set comes once. */
+        private boolean comesTwice(int depth, int p) {
             for (int d = 0; d < depth && d < CAUSE_MOST; d++) {
                 if ((places.cover[p] & reason[d]) != 0 && p < chosen[d]) return true;
             }
@@ -1302,23 +1308,22 @@ public final class PressingPlant {
         }
 
         private void take(long covered, long missed) {
+            long rank = rank(missed);
+            if (rivals == 0 || rank < best) best = rank;
             rivals++;
-            if (tally) {
-                for (int f = 0; f < onRivals.length; f++) onRivals[f] += (int) (covered >>> f & 1L);
-            } else {
-                best = Math.min(best, rank(missed));
-            }
+            if (tallied == 0) return;
+            for (int f = 0; f < onRivals.length; f++) onRivals[f] += (int) (covered >>> f & 1L);
         }
 
-        /** Misses first, then the places in order: 8 bits each. */
+        /** The fewer misses, then the earlier places, the less it is: 8 bits for each place. */
         private long rank(long missed) {
             long rank = Long.bitCount(missed);
             int last = -1;
-            for (int i = 0; i < size; i++) {
-                last = nextChosen(last);
+            for (int i = 0; i < CAUSE_MOST; i++) {
+                last = i < size ? nextChosen(last) : 0;
                 rank = rank << 8 | last;
             }
-            return rank << 8 * (CAUSE_MOST - size);
+            return rank;
         }
 
         private int nextChosen(int last) {
@@ -1337,7 +1342,7 @@ public final class PressingPlant {
             causeSize = size;
             for (int i = 0; i < size && i < CAUSE_MOST; i++) {
                 int p = (int) (best >> 8 * (CAUSE_MOST - 1 - i) & 255L);
-                if (p >= places.count || p >= PLACES_MOST) return;
+                if (!below(p, PLACES_MOST)) return;
                 int at = i * PLACE_FACTS;
                 cause[at] = places.metal[p];
                 cause[at + 1] = places.day[p];
@@ -1353,22 +1358,14 @@ public final class PressingPlant {
             return cause[i * PLACE_FACTS + what];
         }
 
-        /** Of these faces the one that parts the rivals most evenly; NONE: there are none. */
-        int evenest(long faces) {
-            countOnRivals();
+        /** Of the faces that were tallied the one that parts the rivals most evenly; NONE: there is none. */
+        int evenest() {
             int next = NONE;
             for (int f = 0; f < onRivals.length; f++) {
-                if ((faces >>> f & 1L) == 0) continue;
+                if ((tallied >>> f & 1L) == 0) continue;
                 if (next == NONE || greaterPart(f) < greaterPart(next)) next = f;
             }
             return next;
-        }
-
-        private void countOnRivals() {
-            for (int f = 0; f < onRivals.length; f++) onRivals[f] = 0;
-            tally = true;
-            rivals = 0;
-            extend(0, 0L, 0L);
         }
 
         int greaterPart(int f) {
@@ -1508,7 +1505,7 @@ public final class PressingPlant {
         private int fewestPresses(int set) {
             int fewest = PLAN_PRESSES + 1;
             int lowest = set & -set;
-            for (int part = set - 1 & set; part > 0; part = part - 1 & set) {
+            for (int part = (set - 1) & set; part > 0; part = (part - 1) & set) {
                 if ((part & lowest) != 0 && pressesFor[part] == 1) {
                     fewest = Math.min(fewest, 1 + pressesFor[set ^ part]);
                 }
