@@ -734,7 +734,10 @@ public final class PressingPlant {
             return number;
         }
 
-        /** The day on which what was made of a metal came from another one above it, or that one itself; NONE: it is not from it. */
+        /**
+         * Of what was made of a metal on a day: the day on which it, or what it comes from, was made directly
+         * of the one above; NONE: it is not from that one.
+         */
         int madeFrom(int m, int day, int above) {
             int on = day;
             int at = m;
@@ -1311,8 +1314,11 @@ public final class PressingPlant {
             long rank = rank(missed);
             if (rivals == 0 || rank < best) best = rank;
             rivals++;
-            if (tallied == 0) return;
-            for (int f = 0; f < onRivals.length; f++) onRivals[f] += (int) (covered >>> f & 1L);
+            long left = covered & tallied;
+            for (int f = 0; f < onRivals.length && left != 0; f++) {
+                if ((left & 1L) != 0) onRivals[f]++;
+                left >>>= 1;
+            }
         }
 
         /** The fewer misses, then the earlier places, the less it is: 8 bits for each place. */
