@@ -1233,7 +1233,6 @@ public final class PressingPlant {
         private final long[] quiet = new long[PLACES_MOST];
         private final int[] useful = new int[PLACES_MOST];
         private final int[] chosen = new int[CAUSE_MOST];
-        private final long[] reason = new long[CAUSE_MOST];
         private final int[] onRivals = new int[RUNS_MOST * FACES];
         private final int[] cause = new int[CAUSE_MOST * PLACE_FACTS];
         private int causeSize = 0;
@@ -1282,8 +1281,9 @@ public final class PressingPlant {
         }
 
         /**
-         * Takes one place more, for the first face that is not covered yet. If no fewer places are enough,
-         * each place of a set has a face that it alone covers, so no set is left out.
+         * Takes one place more, for the first face that is not covered yet. Two places have no
+         * face in common, or one has all that the other has; so in a set without a place too many each face
+         * is on one place alone, and each set is found once.
          */
         private void extend(int depth, long covered, long missed) {
             long open = need & ~covered;
@@ -1294,20 +1294,11 @@ public final class PressingPlant {
             long wanted = open & -open;
             for (int u = 0; u < usefuls; u++) {
                 int p = useful[u];
-                if ((places.cover[p] & wanted) == 0 || comesTwice(depth, p)) continue;
+                if ((places.cover[p] & wanted) == 0) continue;
                 if (Long.bitCount(missed | quiet[p]) > misses) continue;
                 chosen[depth] = p;
-                reason[depth] = wanted;
                 extend(depth + 1, covered | places.cover[p], missed | quiet[p]);
             }
-        }
-
-        /** Of a set's places that cover a wanted face the first is taken for it, so that each set comes once. */
-        private boolean comesTwice(int depth, int p) {
-            for (int d = 0; d < depth && d < CAUSE_MOST; d++) {
-                if ((places.cover[p] & reason[d]) != 0 && p < chosen[d]) return true;
-            }
-            return false;
         }
 
         private void take(long covered, long missed) {
@@ -1490,7 +1481,6 @@ public final class PressingPlant {
 
         /** For each set by how many presses it can be met. */
         private void countPresses(int today) {
-            pressesFor[0] = 0;
             for (int set = 1; set < 1 << count && set < SETS; set++) {
                 pressesFor[set] = (byte) (onePressMeets(set, today) ? 1 : fewestPresses(set));
             }

@@ -237,6 +237,12 @@ public final class PressingPlantPromises {
         faultOf(x, "W5 5", 3);
         faultOf(x, "W12:", 3);
         faultOf(x, "W/", 1);
+        faultOf(x, "G01:", 3);
+        faultOf(x, "G015:", 4);
+        faultOf(x, "P1:", 2);
+        faultOf(x, "P1234:", 5);
+        faultOf(x, "G01/", 3);
+        faultOf(x, "P/1", 1);
         refused(x, "fault(4)", BAD, o -> o.fault(4));
         refused(x, "fault(-1)", BAD, o -> o.fault(-1));
         found(x, "fault(0)", x.fault(0), NOTHING);
@@ -880,6 +886,13 @@ public final class PressingPlantPromises {
         refused(x, "sell(-1, 1, 0)", BAD, o -> o.sell(-1, 1, 0));
         refused(x, "sell(1, 1, 8)", BAD, o -> o.sell(1, 1, 8));
         refused(x, "sell(1, 1, -1)", BAD, o -> o.sell(1, 1, -1));
+        PressingPlant large = pressed();
+        ruled(large, "W99999", 0);
+        large.run(0, 10000, false);
+        due("sell(4, 10000, 0)", large.sell(4, 10000, 0), 0);
+        part = "37 back";
+        due("back(4, 10000, 0)", large.back(4, 10000, 0), 10000);
+        part = "36 sell";
         ruled(x, "N4", 6);
         due("sell(1, 1, 4), a day ahead", x.sell(1, 1, 4), 14);
         x.later(1);
@@ -1089,6 +1102,10 @@ public final class PressingPlantPromises {
         due("pence()", x.pence(), 21);
         due("cost(0, 17, 7, 9)", x.cost(0, 17, 7, 9), 2);
         due("pence()", x.pence(), 18);
+        due("cost(0, 14, 7, 9), one too many", x.cost(0, 14, 7, 9), 1);
+        due("pence()", x.pence(), 7);
+        due("cost(0, 16, 7, 9), one too few", x.cost(0, 16, 7, 9), 2);
+        due("pence()", x.pence(), 9);
         due("cost(5, 100000, 1000, 1000)", x.cost(5, 100000, 1000, 1000), 2);
         due("pence()", x.pence(), 100000000);
         due("cost(0, 0, 0, 0)", x.cost(0, 0, 0, 0), 1);
