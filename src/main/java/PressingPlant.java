@@ -362,6 +362,7 @@ public final class PressingPlant {
 
     public int owe(int side, int land, int from, int to) {
         if (!below(side, SIDES) || !below(land, LANDS) || !isDay(from) || !isDay(to)) return BAD;
+        if (from > to) return BAD;
         long sum = 0;
         for (int s = 0; s < sales.count; s++) {
             int day = sales.day[s];

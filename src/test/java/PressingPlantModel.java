@@ -544,7 +544,7 @@ public final class PressingPlantModel {
         }
 
         int owe(int side, int land, int from, int to) {
-            if (!in(side, 0, 19) || !in(land, 0, 7) || !day(from) || !day(to)) return BAD;
+            if (!in(side, 0, 19) || !in(land, 0, 7) || !day(from) || !day(to) || to < from) return BAD;
             pence = 0;
             for (Sale s : sales) {
                 if (s.land == land && in(s.day, from, to)) {

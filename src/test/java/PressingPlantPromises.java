@@ -952,8 +952,12 @@ public final class PressingPlantPromises {
         owed(x, 1, 4, 0, 999, 0);
         owed(x, 7, 2, 0, 999, 0);
         owed(x, 1, 2, 0, 999, 44);
-        owed(x, 1, 2, 9, 5, 0);
-        owed(x, 1, 2, 0, 999, 44);
+        refused(x, "owe(1, 2, 9, 5)", BAD, o -> o.owe(1, 2, 9, 5));
+        refused(x, "owe(1, 2, 6, 5)", BAD, o -> o.owe(1, 2, 6, 5));
+        refused(x, "owe(1, 2, 999, 0)", BAD, o -> o.owe(1, 2, 999, 0));
+        due("pence() behind what was refused", x.pence(), 44);
+        owed(x, 1, 2, 999, 999, 0);
+        owed(x, 1, 2, 0, 0, 0);
         ruled(x, "P21000", 0);
         owed(x, 1, 2, 0, 999, 44);
         ruled(x, "P29", 8);
